@@ -39,6 +39,7 @@ public final class PromisesTest {
         clothe();
         gets();
         count();
+        fullHouse();
         CHECK.end("PromisesTest");
     }
 
@@ -965,6 +966,30 @@ public final class PromisesTest {
         counts(h, 3, 2, 0, 30, 0, 7);
         due("count(6)", NONE, h.count(6));
         due("count(-1)", NONE, h.count(-1));
+    }
+
+    /** All robes that can be, and all bolts. */
+    private static void fullHouse() {
+        CHECK.about("promises 28, 30, a full house");
+        int[] chests = new int[30];
+        chests[29] = 1;
+        RobeHouse h = robesIn(chests);
+        for (int k = 0; k < 10; k++) {
+            Tapes.bolt(h, "12", 0, 0);
+        }
+        counts(h, 10, 30, 0, 200, 0, 40);
+        Tapes.rules(h, "rank>0", 0);
+        for (int person = 0; person < 10; person++) {
+            h.person(person, 0, person);
+        }
+        due("clothe(0)", 10, h.clothe(0));
+        getsAll(h, 29, 0, 1, 2, 3, 4, 5, 6, 7, 8);
+        due("lend(29, 0, 0)", 0, h.lend(29, 0, 0));
+        counts(h, 10, 30, 1, 200, 0, 40);
+        due("clothe(0)", 9, h.clothe(0));
+        getsAll(h, NONE, 0, 1, 2, 3, 4, 5, 6, 7, 8);
+        due("back(29, 1)", 0, h.back(29, 1));
+        due("piece(29, 5, 0, 2)", 1, h.piece(29, 5, 0, 2));
     }
 
     private static void counts(RobeHouse h, int... want) {
