@@ -38,7 +38,7 @@ public final class RobeHouse {
     private static final int[] ORDER_UNITS = {7776, 1296, 216, 36, 6, 1};
 
     private static final int SEAMS = 5;
-    private static final int SEAM_A = 0, SEAM_B = 1, SEAM_C = 2, SEAM_D = 3;
+    private static final int SEAM_A = 0, SEAM_B = 1, SEAM_C = 2, SEAM_D = 3, SEAM_E = 4;
     /** Seam s sews piece s + 1 to this one, which is always a lesser one: the seams make a tree. */
     private static final int[] SEWN_TO = {0, 0, 1, 0, 4};
 
@@ -510,6 +510,11 @@ public final class RobeHouse {
         return n >= least && n <= most;
     }
 
+    /** The piece at place k of an order; a piece's number whatever order is. */
+    private static int pieceAt(int order, int k) {
+        return Math.floorMod(order / ORDER_UNITS[k], PIECES);
+    }
+
     private Cloth boltAt(int bolt) {
         return within(bolt, 0, MOST_BOLTS - 1) ? bolts[bolt] : null;
     }
@@ -720,7 +725,7 @@ public final class RobeHouse {
             }
             int met = 0;
             for (int k = 0; k < PIECES; k++) {
-                met |= 1 << order / ORDER_UNITS[k] % PIECES;
+                met |= 1 << pieceAt(order, k);
             }
             return met == ALL_PIECES;
         }
@@ -791,9 +796,11 @@ public final class RobeHouse {
     /** Rows with six pieces laid on them, and how these look as the robe that they are or would be. */
     private static final class Layout {
         int[] rows = new int[0];
-        int[] lengths = new int[0];
+        int[] lengths = new int[PIECES];
         int threads;
         int fold;
+        /** How many rows of each seam's two pieces meet. */
+        private final int[] seamRows = new int[SEAMS];
         /** How many rows ahead of each place are flawed or worn so that it can be seen. */
         final int[] spotsAhead = new int[MOST_ROWS + 1];
         final int[] starts = new int[PIECES];
@@ -808,6 +815,16 @@ public final class RobeHouse {
             for (int i = 0; i < rows.length && i < MOST_ROWS; i++) {
                 spotsAhead[i + 1] = spotsAhead[i] + (isSpot(rows[i]) ? 1 : 0);
             }
+            meetAtSeams();
+        }
+
+        private void meetAtSeams() {
+            int besideSleeve = Math.min(lengths[BODY] / 2, lengths[SLEEVE]);
+            seamRows[SEAM_A] = lengths[BODY];
+            seamRows[SEAM_B] = besideSleeve;
+            seamRows[SEAM_C] = besideSleeve;
+            seamRows[SEAM_D] = Math.min(lengths[FRONT], lengths[BODY]);
+            seamRows[SEAM_E] = Math.min(lengths[COLLAR], lengths[FRONT]);
         }
 
         private static boolean isSpot(int row) {
@@ -818,7 +835,7 @@ public final class RobeHouse {
             turned = turnedPieces;
             int start = 0;
             for (int k = 0; k < PIECES; k++) {
-                int piece = order / ORDER_UNITS[k] % PIECES;
+                int piece = pieceAt(order, k);
                 starts[piece] = start;
                 start += lengths[piece];
             }
@@ -833,13 +850,24 @@ public final class RobeHouse {
             return starts[piece] + (turnOf(piece) == 0 ? i : lengths[piece] - 1 - i);
         }
 
+        private boolean isOnCloth(int place) {
+            return place >= 0 && place < rows.length;
+        }
+
+        private int patternAt(int place) {
+            return place >= 0 && place < rows.length ? rows[place] & PATTERN_BITS : 0;
+        }
+
         /** The rows that lie here, in the order of the pieces' numbers, row 0 of each first. */
         int[] cutRows() {
             int[] cut = new int[rows.length];
             int at = 0;
             for (int piece = 0; piece < PIECES; piece++) {
                 for (int i = 0; i < lengths[piece]; i++) {
-                    cut[at] = rows[placeOf(piece, i)];
+                    int place = placeOf(piece, i);
+                    if (isOnCloth(at) && isOnCloth(place)) {
+                        cut[at] = rows[place];
+                    }
                     at++;
                 }
             }
@@ -852,7 +880,10 @@ public final class RobeHouse {
             int at = 0;
             for (int piece = 0; piece < PIECES; piece++) {
                 for (int i = 0; i < lengths[piece]; i++) {
-                    joined[placeOf(piece, i)] = rows[at];
+                    int place = placeOf(piece, i);
+                    if (isOnCloth(at) && isOnCloth(place)) {
+                        joined[place] = rows[at];
+                    }
                     at++;
                 }
             }
@@ -878,7 +909,7 @@ public final class RobeHouse {
         int shownOf(int piece) {
             int from = starts[piece] + fold;
             int to = starts[piece] + lengths[piece] - fold;
-            return from < to ? spotsAhead[to] - spotsAhead[from] : 0;
+            return from >= 0 && from < to && to <= MOST_ROWS ? spotsAhead[to] - spotsAhead[from] : 0;
         }
 
         int missOf(int seam) {
@@ -897,11 +928,8 @@ public final class RobeHouse {
             int step = fromEnd ? -1 : 1;
             int sewnToStep = sewnToFromEnd ? -1 : 1;
             int misses = 0;
-            for (int left = seamRows(seam); left > 0; left--) {
-                int apart = (rows[at] & PATTERN_BITS) - (rows[sewnToAt] & PATTERN_BITS);
-                if (apart < 0) {
-                    apart = -apart;
-                }
+            for (int left = seamRows[seam]; left > 0; left--) {
+                int apart = Math.abs(patternAt(at) - patternAt(sewnToAt));
                 // patterns are round: apart one way, and 10 less that the other way
                 if (apart > threads && 10 - apart > threads) {
                     misses++;
@@ -910,20 +938,6 @@ public final class RobeHouse {
                 sewnToAt += sewnToStep;
             }
             return misses;
-        }
-
-        private int seamRows(int seam) {
-            switch (seam) {
-                case SEAM_A:
-                    return lengths[BODY];
-                case SEAM_B:
-                case SEAM_C:
-                    return Math.min(lengths[BODY] / 2, lengths[SLEEVE]);
-                case SEAM_D:
-                    return Math.min(lengths[FRONT], lengths[BODY]);
-                default:
-                    return Math.min(lengths[COLLAR], lengths[FRONT]);
-            }
         }
     }
 

@@ -3,6 +3,8 @@ import java.lang.reflect.Method;
 import java.lang.reflect.Modifier;
 import java.util.ArrayList;
 import java.util.List;
+import java.util.Map;
+import java.util.TreeMap;
 
 /** Calls by name, on a RobeHouse or on a PlainHouse. */
 final class Calls {
@@ -29,32 +31,34 @@ final class Calls {
         }
     }
 
-    private static final Method[] OF_HOUSE = RobeHouse.class.getDeclaredMethods();
-    private static final Method[] OF_PLAIN = PlainHouse.class.getDeclaredMethods();
+    private static final Map<String, Method> OF_HOUSE = byName(RobeHouse.class);
+    private static final Map<String, Method> OF_PLAIN = byName(PlainHouse.class);
 
     private Calls() {
     }
 
-    /** The document's methods. */
-    static List<Method> all() {
-        List<Method> methods = new ArrayList<>();
-        for (Method method : OF_HOUSE) {
-            if (Modifier.isPublic(method.getModifiers())) {
-                methods.add(method);
+    private static Map<String, Method> byName(Class<?> house) {
+        Map<String, Method> methods = new TreeMap<>();
+        for (Method method : house.getDeclaredMethods()) {
+            int modifiers = method.getModifiers();
+            if (!Modifier.isPrivate(modifiers) && !Modifier.isStatic(modifiers) && !method.isSynthetic()) {
+                methods.put(method.getName(), method);
             }
         }
-        methods.sort((a, b) -> a.getName().compareTo(b.getName()));
         return methods;
     }
 
+    /** The document's methods. */
+    static List<Method> all() {
+        return new ArrayList<>(OF_HOUSE.values());
+    }
+
     static int answer(Object house, Call call) {
-        Method[] methods = house instanceof RobeHouse ? OF_HOUSE : OF_PLAIN;
-        for (Method method : methods) {
-            if (method.getName().equals(call.name) && method.getParameterCount() == call.args.length) {
-                return answer(house, method, call.args);
-            }
+        Method method = (house instanceof RobeHouse ? OF_HOUSE : OF_PLAIN).get(call.name);
+        if (method == null || method.getParameterCount() != call.args.length) {
+            throw new IllegalStateException("no method for " + call);
         }
-        throw new IllegalStateException("no method for " + call);
+        return answer(house, method, call.args);
     }
 
     private static int answer(Object house, Method method, long[] args) {

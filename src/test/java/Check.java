@@ -24,6 +24,20 @@ final class Check {
         }
     }
 
+    /** Calls by name; the call is told as it was where the answer is not the due one. */
+    void call(long want, RobeHouse house, String name, long... args) {
+        Calls.Call call = new Calls.Call(name, args);
+        int got = Calls.answer(house, call);
+        looked++;
+        if (want != got) {
+            tell(call + " answered " + got + ", due is " + want);
+        }
+    }
+
+    int looked() {
+        return looked;
+    }
+
     void yes(String what, boolean holds) {
         looked++;
         if (!holds) {
