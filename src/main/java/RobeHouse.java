@@ -60,8 +60,9 @@ public final class RobeHouse {
     private final int[] measures = {4, 4, 0, 0, 2, 2};
     private int threads = 0;
     private int fold = 2;
-    private final Layout layout = new Layout();
-    private final Search search = new Search(layout);
+    private final Search search = new Search();
+    /** The one that search looks at; all layings are looked at on it. */
+    private final Layout layout = search.layout;
     private int laidOrder = NONE;
     private int laidTurned = NONE;
 
@@ -958,7 +959,7 @@ public final class RobeHouse {
         private static final int KEY_MISS = 512, KEY_TURNED = 64;
         private static final int FAR_TOO_UGLY = 1000000;
 
-        private final Layout layout;
+        final Layout layout = new Layout();
         private final int[] known = new int[SEAM_KINDS * STARTS * STARTS];
         private final int[] startCodes = new int[PIECES];
         private final int[] seamMisses = new int[SEAMS];
@@ -968,10 +969,6 @@ public final class RobeHouse {
         int leastUgly;
         int bestOrder;
         int bestTurned;
-
-        Search(Layout layout) {
-            this.layout = layout;
-        }
 
         /** Finds the best laying of what is spread on the layout. */
         void find(boolean clothIsOneWay) {

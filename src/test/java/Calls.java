@@ -53,15 +53,19 @@ final class Calls {
         return new ArrayList<>(OF_HOUSE.values());
     }
 
+    static int answer(Object house, String name, long... args) {
+        return answer(house, new Call(name, args));
+    }
+
     static int answer(Object house, Call call) {
         Method method = (house instanceof RobeHouse ? OF_HOUSE : OF_PLAIN).get(call.name);
         if (method == null || method.getParameterCount() != call.args.length) {
             throw new IllegalStateException("no method for " + call);
         }
-        return answer(house, method, call.args);
+        return invoke(house, method, call.args);
     }
 
-    private static int answer(Object house, Method method, long[] args) {
+    private static int invoke(Object house, Method method, long[] args) {
         Object[] given = new Object[args.length];
         for (int k = 0; k < args.length; k++) {
             if (method.getParameterTypes()[k] == long.class) {

@@ -7,7 +7,7 @@ enum Houses {
      * 6 (10 rows, one-way, colour 4), 7 (9 rows: no robe can be sewn of it, colour 9), 8 (10 rows, colour 0),
      * 10 (8 rows, worn, colour 7). Robes made: 0 .. 4: 0 lies in chest 0, 1 in chest 1 and is lined and one-way,
      * 2 is lent from chest 0 to person 4, 3 is unpicked, 4 lies in no chest and is lined. Rules: chest 0
-     * "age>19;rank<5", chest 1 "season=2;lined=1", chest 2 "colour<4", chest 3 none. People: 0 (20, 4),
+     * "age>19;rank<5", chest 1 "season=2;lined=1", chest 2 "colour=3;age>20", chest 3 none. People: 0 (20, 4),
      * 4 (30, 2), 9 (99, 9). The tape: "7!8". best(8) and clothe(2) were asked.
      */
     RICH,
@@ -27,39 +27,71 @@ enum Houses {
 
     RobeHouse make() {
         RobeHouse house = new RobeHouse();
+        build(house);
+        return house;
+    }
+
+    /** The same of the plain model. */
+    PlainHouse makePlain() {
+        PlainHouse house = new PlainHouse();
+        build(house);
+        return house;
+    }
+
+    private static int ask(Object house, String name, long... args) {
+        return Calls.answer(house, name, args);
+    }
+
+    /** A robe of a new bolt, its pieces laid in their order: its number. */
+    static int sewn(Object house, String text, int colour, int oneWay) {
+        return ask(house, "sew", Tapes.bolt(house, text, colour, oneWay), PLAIN, 0);
+    }
+
+    private void build(Object house) {
         if (this != NEW) {
-            makeRich(house);
+            buildRich(house);
         }
         if (this == FULL_TAPE) {
             Tapes.feed(house, "5!".repeat(10) + "5".repeat(107));
         }
         if (this == ALL_ROBES || this == ALL_MADE) {
-            house.bolt(1, 0);
-            while (house.robe(29, 0) < 0) {
+            ask(house, "bolt", 1, 0);
+            while (ask(house, "robe", 29, 0) < 0) {
                 sewn(house, "76543210", 2, 0);
             }
         }
         if (this == ALL_BOLTS || this == ALL_MADE) {
-            house.bolt(1, 0);
-            while (house.count(5) < 40) {
+            ask(house, "bolt", 1, 0);
+            while (ask(house, "count", 5) < 40) {
                 Tapes.bolt(house, "5", 6, 0);
             }
         }
         if (this == ALL_BOLTS || this == ALL_ROBES || this == ALL_MADE) {
             Tapes.feed(house, "3!");
         }
-        return house;
     }
 
-    /** A robe of a new bolt, its pieces laid in their order: its number. */
-    static int sewn(RobeHouse house, String text, int colour, int oneWay) {
-        return house.sew(Tapes.bolt(house, text, colour, oneWay), PLAIN, 0);
+    private static void buildRich(Object house) {
+        ask(house, "measure", 2, 1, 1);
+        ask(house, "set", 0, 1);
+        ask(house, "set", 1, 1);
+        buildCloth(house);
+        Tapes.rules(house, "age>19;rank<5", 0);
+        Tapes.rules(house, "season=2;lined=1", 1);
+        Tapes.rules(house, "colour=3;age>20", 2);
+        ask(house, "person", 0, 20, 4);
+        ask(house, "person", 4, 30, 2);
+        ask(house, "person", 9, 99, 9);
+        ask(house, "chest", 0, 0);
+        ask(house, "chest", 1, 1);
+        ask(house, "chest", 2, 0);
+        ask(house, "lend", 2, 4, 0);
+        ask(house, "best", 8);
+        ask(house, "clothe", 2);
+        Tapes.feed(house, "7!8");
     }
 
-    private static void makeRich(RobeHouse house) {
-        house.measure(2, 1, 1);
-        house.set(0, 1);
-        house.set(1, 1);
+    private static void buildCloth(Object house) {
         sewn(house, "12!34567!8", 3, 0);
         sewn(house, "0123456789", 5, 1);
         sewn(house, "00000000", 0, 0);
@@ -70,24 +102,11 @@ enum Houses {
         Tapes.bolt(house, "123456789", 9, 0);
         Tapes.bolt(house, "9081!726354", 0, 0);
         Tapes.bolt(house, "33333333", 1, 0);
-        house.line(1, 5);
-        house.line(4, 9);
+        ask(house, "line", 1, 5);
+        ask(house, "line", 4, 9);
         for (int k = 0; k < 3; k++) {
-            house.wear(3);
+            ask(house, "wear", 3);
         }
-        house.unpick(3, REVERSED, 9);
-        Tapes.rules(house, "age>19;rank<5", 0);
-        Tapes.rules(house, "season=2;lined=1", 1);
-        Tapes.rules(house, "colour<4", 2);
-        house.person(0, 20, 4);
-        house.person(4, 30, 2);
-        house.person(9, 99, 9);
-        house.chest(0, 0);
-        house.chest(1, 1);
-        house.chest(2, 0);
-        house.lend(2, 4, 0);
-        house.best(8);
-        house.clothe(2);
-        Tapes.feed(house, "7!8");
+        ask(house, "unpick", 3, REVERSED, 9);
     }
 }

@@ -1,33 +1,36 @@
 import java.nio.charset.StandardCharsets;
 
-/** Feeds texts. */
+/** Feeds texts to a RobeHouse or a PlainHouse, and tells rows as texts. */
 final class Tapes {
     private Tapes() {
     }
 
     /** Feeds a whole text by eights: the last answer, or the first refusal. */
-    static int feed(RobeHouse house, String text) {
-        byte[] bytes = text.getBytes(StandardCharsets.ISO_8859_1);
-        int answer = house.count(4);
-        for (int at = 0; at < bytes.length && answer >= 0; at += 8) {
-            int n = Math.min(8, bytes.length - at);
-            long w = 0;
-            for (int k = 0; k < n; k++) {
-                w = w << 8 | bytes[at + k] & 255;
-            }
-            answer = house.feed(w, n);
+    static int feed(Object house, String text) {
+        int answer = Calls.answer(house, "count", 4);
+        for (int at = 0; at < text.length() && answer >= 0; at += 8) {
+            answer = Calls.answer(house, feedOf(text.substring(at, Math.min(at + 8, text.length()))));
         }
         return answer;
     }
 
-    static int bolt(RobeHouse house, String text, int colour, int oneWay) {
-        feed(house, text);
-        return house.bolt(colour, oneWay);
+    /** The call that feeds up to eight signs. */
+    static Calls.Call feedOf(String text) {
+        long w = 0;
+        for (byte b : text.getBytes(StandardCharsets.ISO_8859_1)) {
+            w = w << 8 | b & 255;
+        }
+        return new Calls.Call("feed", w, text.length());
     }
 
-    static int rules(RobeHouse house, String text, int chest) {
+    static int bolt(Object house, String text, int colour, int oneWay) {
         feed(house, text);
-        return house.rules(chest);
+        return Calls.answer(house, "bolt", colour, oneWay);
+    }
+
+    static int rules(Object house, String text, int chest) {
+        feed(house, text);
+        return Calls.answer(house, "rules", chest);
     }
 
     /** The patterns, flaws and worn of a bolt as a text: "3 4! 5(2)". */

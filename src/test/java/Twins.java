@@ -1,216 +1,230 @@
 import java.util.ArrayList;
 import java.util.EnumMap;
+import java.util.LinkedHashMap;
 import java.util.List;
 import java.util.Map;
 
-/**
- * Whether a refused call changes anything: all that later calls show of the house is compared with what they show
- * of a twin that was not asked that call.
- */
+/** Whether a refused call changes anything: a house that was asked it and the plain model that was not go on alike. */
 final class Twins {
-    private static final int NONE = -1;
-    private static final int[] ORDERS = {Houses.PLAIN, Houses.REVERSED, 16605, 8530};
-    private static final Map<Houses, List<List<Shown>>> UNTOUCHED = new EnumMap<>(Houses.class);
+    private static final Map<Houses, List<Later>> LATER = new EnumMap<>(Houses.class);
+    private static final Map<Houses, PlainHouse> PLAIN = new EnumMap<>(Houses.class);
 
-    /** A later call and its answer. */
-    private static final class Shown {
-        final Calls.Call call;
-        final int answer;
-
-        Shown(Calls.Call call, int answer) {
-            this.call = call;
-            this.answer = answer;
-        }
+    private Twins() {
     }
 
-    private final RobeHouse house;
-    private final List<Shown> shown = new ArrayList<>();
-
-    private Twins(RobeHouse house) {
-        this.house = house;
-    }
-
-    /** The call is refused so, and nothing is changed by it. */
+    /** The call is refused so, and nothing that later calls show is changed by it. */
     static void refused(Check check, Houses kind, int want, String name, long... args) {
         Calls.Call call = new Calls.Call(name, args);
-        List<List<Shown>> due = UNTOUCHED.computeIfAbsent(kind, k -> showAll(k, null));
-        check.call(want, kind.make(), name, args);
-        List<List<Shown>> got = showAll(kind, call);
-        for (int k = 0; k < due.size(); k++) {
-            compare(check, kind + " behind a refused " + call + ": ", due.get(k), got.get(k));
-        }
-    }
-
-    private static void compare(Check check, String where, List<Shown> due, List<Shown> got) {
-        check.due(where + "later calls", due.size(), got.size());
-        for (int k = 0; k < due.size() && k < got.size(); k++) {
-            if (due.get(k).answer != got.get(k).answer) {
-                check.due(where + due.get(k).call, due.get(k).answer, got.get(k).answer);
-                return;
-            }
-        }
-    }
-
-    /** Looking uses the house up, so each way of looking has one of its own. */
-    private static List<List<Shown>> showAll(Houses kind, Calls.Call refused) {
-        List<List<Shown>> all = new ArrayList<>();
-        for (int way = 0; way < 2; way++) {
+        PlainHouse plain = PLAIN.computeIfAbsent(kind, Houses::makePlain);
+        check.due(kind + ": the model's " + call, want, Calls.answer(plain, call));
+        for (Later later : LATER.computeIfAbsent(kind, Later::ways)) {
             RobeHouse house = kind.make();
-            if (refused != null) {
-                Calls.answer(house, refused);
-            }
-            Twins looking = new Twins(house);
-            if (way == 0) {
-                looking.look();
-                looking.readTape();
-                looking.tellPeopleAnew();
-            } else {
-                looking.askAges();
-                looking.takeApart();
-            }
-            all.add(looking.shown);
-        }
-        return all;
-    }
-
-    private int ask(String name, long... args) {
-        Calls.Call call = new Calls.Call(name, args);
-        int answer = Calls.answer(house, call);
-        shown.add(new Shown(call, answer));
-        return answer;
-    }
-
-    private void askEach(int end, String name) {
-        for (int what = 0; what < end; what++) {
-            ask(name, what);
+            check.call(want, house, name, args);
+            later.compare(check, kind + " behind a refused " + call + ": ", house);
         }
     }
 
-    private void look() {
-        askEach(6, "count");
-        askEach(2, "laid");
-        askEach(10, "gets");
-        for (int bolt = 0; bolt < 40; bolt++) {
-            lookAtBolt(bolt);
-        }
-        for (int robe = 0; robe < 30; robe++) {
-            lookAtRobe(robe);
-        }
-        for (int season = 0; season < 4; season++) {
-            ask("clothe", season);
-            askEach(10, "gets");
-        }
-        for (int what = 0; what < 2; what++) {
-            int was = ask("set", what, 0);
-            house.set(what, was);
-        }
-    }
+    /** Calls by which all that a house holds shows, with the model's answers. They use the house up. */
+    private static final class Later {
+        private static final int[] ORDERS = {Houses.PLAIN, Houses.REVERSED, 16605, 8530};
+        private final Object model;
+        private final List<Calls.Call> calls = new ArrayList<>();
+        private final List<Integer> answers = new ArrayList<>();
+        /** Those that are refused come last: they might change what is to be shown. */
+        private final Map<String, Calls.Call> refused = new LinkedHashMap<>();
 
-    private void lookAtBolt(int bolt) {
-        int rows = ask("about", bolt, 0);
-        if (rows == NONE) {
-            return;
+        private Later(Houses kind) {
+            model = kind.makePlain();
         }
-        ask("about", bolt, 1);
-        ask("about", bolt, 2);
-        if (ask("sleeves", bolt) > 0) {
-            for (int order : ORDERS) {
-                ask("ugly", bolt, order, 0);
-                ask("ugly", bolt, order, 63);
-            }
-        }
-        for (int row = 0; row < rows; row++) {
-            for (int what = 0; what < 3; what++) {
-                ask("row", bolt, row, what);
-            }
-        }
-    }
 
-    private void lookAtRobe(int robe) {
-        if (ask("robe", robe, 0) == NONE) {
-            return;
+        static List<Later> ways(Houses kind) {
+            Later looking = new Later(kind);
+            looking.look();
+            looking.readTape();
+            looking.tellPeopleAnew();
+            looking.askRefused();
+            Later takingApart = new Later(kind);
+            takingApart.askAges();
+            takingApart.takeApart();
+            takingApart.askRefused();
+            return List.of(looking, takingApart);
         }
-        for (int what = 1; what < 10; what++) {
-            ask("robe", robe, what);
-        }
-        for (int seam = 0; seam < 5; seam++) {
-            ask("miss", robe, seam);
-        }
-        for (int piece = 0; piece < 6; piece++) {
-            for (int i = 0; ask("piece", robe, piece, i, 0) >= 0; i++) {
-                ask("piece", robe, piece, i, 1);
-                ask("piece", robe, piece, i, 2);
-            }
-        }
-        for (int person = 0; person < 10; person++) {
-            ask("may", robe, person, robe % 4);
-        }
-    }
 
-    /** What is on the tape shows as a bolt; in a house that can have no more, as a fault of rules. */
-    private void readTape() {
-        int bolt = ask("bolt", 1, 0);
-        if (bolt >= 0) {
-            lookAtBolt(bolt);
-        } else if (bolt == RobeHouse.FULL) {
-            ask("rules", 3);
-        }
-    }
-
-    private int robeAtHand() {
-        for (int robe = 0; robe < 30; robe++) {
-            if (house.robe(robe, 0) >= 0 && house.robe(robe, 8) == NONE) {
-                return robe;
-            }
-        }
-        return 0;
-    }
-
-    /** The rules of chests show by people of all kinds. */
-    private void tellPeopleAnew() {
-        int robe = robeAtHand();
-        for (int chest = 0; chest < 4; chest++) {
-            ask("chest", robe, chest);
-            for (int k = 0; k < 10; k++) {
-                ask("person", 0, new int[] {0, 19, 20, 21, 99}[k % 5], new int[] {4, 5}[k / 5]);
-                for (int season = 0; season < 4; season++) {
-                    ask("may", robe, 0, season);
+        void compare(Check check, String where, RobeHouse house) {
+            for (int k = 0; k < calls.size(); k++) {
+                int got = Calls.answer(house, calls.get(k));
+                if (got != answers.get(k)) {
+                    check.due(where + calls.get(k), answers.get(k), got);
+                    return;
                 }
             }
         }
-    }
 
-    /** Ages and ranks of people show by rules for each. */
-    private void askAges() {
-        int robe = robeAtHand();
-        ask("chest", robe, 3);
-        house.rules(3);
-        for (int n = 0; n < 110; n++) {
-            Tapes.rules(house, n < 100 ? "age=" + n : "rank=" + (n - 100), 3);
-            for (int person = 0; person < 10; person++) {
-                ask("may", robe, person, 0);
+        private int ask(String name, long... args) {
+            return ask(new Calls.Call(name, args));
+        }
+
+        private int ask(Calls.Call call) {
+            int answer = Calls.answer(model, call);
+            if (isRefusal(call, answer)) {
+                refused.put(call.toString(), call);
+            } else {
+                calls.add(call);
+                answers.add(answer);
+            }
+            return answer;
+        }
+
+        private void askRefused() {
+            for (Calls.Call call : refused.values()) {
+                calls.add(call);
+                answers.add(Calls.answer(model, call));
             }
         }
-    }
 
-    private void takeApart() {
-        for (int bolt = 0; bolt < 40; bolt++) {
-            if (ask("wash", bolt) >= 0) {
-                ask("best", bolt);
-                askEach(2, "laid");
+        /** Whether an answer below 0 is no answer: NONE may be one, and so are faults. */
+        private boolean isRefusal(Calls.Call call, int answer) {
+            switch (call.name) {
+                case "gets":
+                case "laid":
+                    return false;
+                case "chest":
+                    return answer < -1;
+                case "robe":
+                    return Calls.answer(model, "robe", call.args[0], 0) < 0;
+                default:
+                    return answer < 0 && answer > -10;
+            }
+        }
+
+        private void askEach(int end, String name) {
+            for (int what = 0; what < end; what++) {
+                ask(name, what);
+            }
+        }
+
+        private void look() {
+            askEach(6, "count");
+            askEach(2, "laid");
+            askEach(10, "gets");
+            for (int bolt = 0; bolt < 40; bolt++) {
+                lookAtBolt(bolt);
+            }
+            for (int robe = 0; robe < 30; robe++) {
+                lookAtRobe(robe);
+            }
+            for (int season = 0; season < 4; season++) {
+                ask("clothe", season);
+                askEach(10, "gets");
+            }
+            for (int what = 0; what < 2; what++) {
+                ask("set", what, ask("set", what, 0));
+            }
+        }
+
+        private void lookAtBolt(int bolt) {
+            ask("about", bolt, 1);
+            ask("about", bolt, 2);
+            if (ask("sleeves", bolt) > 0) {
+                for (int order : ORDERS) {
+                    ask("ugly", bolt, order, 0);
+                    ask("ugly", bolt, order, 63);
+                }
+            }
+            int rows = ask("about", bolt, 0);
+            for (int row = 0; row < rows; row++) {
+                for (int what = 0; what < 3; what++) {
+                    ask("row", bolt, row, what);
+                }
+            }
+        }
+
+        private void lookAtRobe(int robe) {
+            if (ask("robe", robe, 0) < 0) {
+                return;
+            }
+            for (int what = 1; what < 10; what++) {
+                ask("robe", robe, what);
+            }
+            for (int seam = 0; seam < 5; seam++) {
+                ask("miss", robe, seam);
+            }
+            int[] whatOfPiece = {2, 2, 1, 1, 3, 4};
+            for (int piece = 0; piece < 6; piece++) {
+                int rows = Calls.answer(model, "robe", robe, whatOfPiece[piece]);
+                for (int k = 0; k < 3 * rows; k++) {
+                    ask("piece", robe, piece, k / 3, k % 3);
+                }
+            }
+            for (int k = 0; k < 40; k++) {
+                ask("may", robe, k / 4, k % 4);
+            }
+        }
+
+        /** What is on the tape shows as a bolt; in a house that can have no more, as a fault of rules. */
+        private void readTape() {
+            int bolt = ask("bolt", 1, 0);
+            if (bolt >= 0) {
+                lookAtBolt(bolt);
+            } else if (bolt == RobeHouse.FULL) {
+                ask("rules", 3);
+            }
+        }
+
+        private int robeAtHand() {
+            for (int robe = 0; robe < 30; robe++) {
+                if (Calls.answer(model, "robe", robe, 0) >= 0 && Calls.answer(model, "robe", robe, 8) < 0) {
+                    return robe;
+                }
+            }
+            return 0;
+        }
+
+        /** The rules of chests show by people of all kinds. */
+        private void tellPeopleAnew() {
+            int robe = robeAtHand();
+            int[] ages = {0, 19, 20, 21, 99};
+            for (int chest = 0; chest < 4; chest++) {
+                ask("chest", robe, chest);
+                for (int k = 0; k < 40; k++) {
+                    ask("person", 0, ages[k % 5], 4 + k / 5 % 2);
+                    ask("may", robe, 0, k / 10);
+                }
+            }
+        }
+
+        /** Ages and ranks of people show by rules for each. */
+        private void askAges() {
+            int robe = robeAtHand();
+            ask("chest", robe, 3);
+            ask("rules", 3);
+            for (int n = 0; n < 110; n++) {
+                ask(Tapes.feedOf(n < 100 ? "age=" + n : "rank=" + (n - 100)));
+                ask("rules", 3);
+                for (int person = 0; person < 10; person++) {
+                    ask("may", robe, person, 0);
+                }
+            }
+        }
+
+        private void takeApart() {
+            // the model is slow in this: one is enough to show what it goes by
+            ask("best", 8);
+            askEach(2, "laid");
+            for (int bolt = 0; bolt < 40; bolt++) {
+                ask("wash", bolt);
                 int robe = ask("sew", bolt, Houses.PLAIN, 0);
                 if (robe >= 0) {
                     lookAtRobe(robe);
                 }
             }
-        }
-        for (int robe = 0; robe < 30; robe++) {
-            ask("back", robe, 1);
-            if (ask("wear", robe) >= 0) {
+            for (int robe = 0; robe < 30; robe++) {
+                ask("back", robe, 1);
+                ask("wear", robe);
                 ask("unline", robe);
                 ask("unpick", robe, Houses.REVERSED, 0);
             }
+            look();
         }
-        look();
     }
 }
