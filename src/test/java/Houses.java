@@ -47,6 +47,13 @@ enum Houses {
         return ask(house, "sew", Tapes.bolt(house, text, colour, oneWay), PLAIN, 0);
     }
 
+    /** Bolts of one row, until so many are made. */
+    static void fillBolts(Object house, int made) {
+        for (int k = ask(house, "count", 5); k < made; k++) {
+            Tapes.bolt(house, "5", 6, 0);
+        }
+    }
+
     private void build(Object house) {
         if (this != NEW) {
             buildRich(house);
@@ -56,15 +63,13 @@ enum Houses {
         }
         if (this == ALL_ROBES || this == ALL_MADE) {
             ask(house, "bolt", 1, 0);
-            while (ask(house, "robe", 29, 0) < 0) {
+            for (int k = 0; k < 25; k++) {
                 sewn(house, "76543210", 2, 0);
             }
         }
         if (this == ALL_BOLTS || this == ALL_MADE) {
             ask(house, "bolt", 1, 0);
-            while (ask(house, "count", 5) < 40) {
-                Tapes.bolt(house, "5", 6, 0);
-            }
+            fillBolts(house, 40);
         }
         if (this == ALL_BOLTS || this == ALL_ROBES || this == ALL_MADE) {
             Tapes.feed(house, "3!");

@@ -445,9 +445,7 @@ public final class RobeBoundsTest {
 
     static void promise19TheLastBoltThatCanBe() {
         RobeHouse h = oneRobe(1, 1, 1, 1);
-        while (h.count(5) < 39) {
-            Tapes.bolt(h, "1", 0, 0);
-        }
+        Houses.fillBolts(h, 39);
         Tapes.feed(h, "1");
         due(39, h, "unpick", 0, PLAIN, 0);
         due(6, h, "about", 39, 0);
@@ -625,9 +623,7 @@ public final class RobeBoundsTest {
         RobeHouse h = oneRobe(1, 1, 1, 1);
         Tapes.bolt(h, "123456", 0, 0);
         due(0, h, "line", 0, 1);
-        while (h.count(5) < 39) {
-            Tapes.bolt(h, "1", 0, 0);
-        }
+        Houses.fillBolts(h, 39);
         due(39, h, "unline", 0);
         due(6, h, "about", 39, 0);
         due(0, h, "line", 0, 39);

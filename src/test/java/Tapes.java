@@ -44,7 +44,7 @@ final class Tapes {
 
     static String pieceOf(RobeHouse house, int robe, int piece) {
         StringBuilder text = new StringBuilder();
-        for (int i = 0; house.piece(robe, piece, i, 0) >= 0; i++) {
+        for (int i = 0; i < 120 && house.piece(robe, piece, i, 0) >= 0; i++) {
             append(text, house.piece(robe, piece, i, 0), house.piece(robe, piece, i, 1),
                     house.piece(robe, piece, i, 2));
         }
