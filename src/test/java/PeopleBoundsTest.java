@@ -692,6 +692,19 @@ public final class PeopleBoundsTest {
         getsAll(h, 0, 1, 2, 3, NONE);
     }
 
+    static void promise28TheLongestMove() {
+        // all may wear robes 0 .. 8, only one of them robe 9: for the tenth to have one all others may have to move
+        for (int mover = 0; mover < 10; mover++) {
+            RobeHouse h = robesIn(0, 0, 0, 0, 0, 0, 0, 0, 0, 1);
+            tell(h, 10);
+            CHECK.due("rules", 1, Tapes.rules(h, "rank=" + mover, 1));
+            due(10, h, "clothe", 0);
+            for (int person = 0; person < 10; person++) {
+                due(person == mover ? 9 : person < mover ? person : person - 1, h, "gets", person);
+            }
+        }
+    }
+
     static void promise28TheLeastOfPeopleWithTheLeastRobe() {
         RobeHouse h = robesIn(1, 0, 1, 0);
         tell(h, 4);
