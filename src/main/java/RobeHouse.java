@@ -35,7 +35,6 @@ public final class RobeHouse {
     /** The order 0, 1, .. 5, in which a robe keeps its pieces. */
     private static final int ROBE_ORDER = 1865;
     private static final int ORDERS_END = 46656;
-    private static final int[] ORDER_UNITS = {7776, 1296, 216, 36, 6, 1};
 
     private static final int SEAMS = 5;
     private static final int SEAM_A = 0, SEAM_B = 1, SEAM_C = 2, SEAM_D = 3, SEAM_E = 4;
@@ -103,7 +102,7 @@ public final class RobeHouse {
         }
         int n = tape.readRows();
         tape.size = 0;
-        if (n <= FAULT) {
+        if (n < 0) {
             return n;
         }
         return keepBolt(new Cloth(Arrays.copyOf(tape.rows, n), colour, oneWay));
@@ -513,7 +512,11 @@ public final class RobeHouse {
 
     /** The piece at place k of an order; a piece's number whatever order is. */
     private static int pieceAt(int order, int k) {
-        return Math.floorMod(order / ORDER_UNITS[k], PIECES);
+        int rest = order;
+        for (int behind = PIECES - 1; behind > k; behind--) {
+            rest /= PIECES;
+        }
+        return Math.floorMod(rest, PIECES);
     }
 
     private Cloth boltAt(int bolt) {
@@ -574,7 +577,7 @@ public final class RobeHouse {
             return 0;
         }
         int bits = 0;
-        for (int i = 0; i < robesMade; i++) {
+        for (int i = 0; i < MOST_ROBES; i++) {
             Robe robe = robes[i];
             if (robe != null && robe.isAtHand() && canWear(robe, person, season)) {
                 bits |= 1 << i;
@@ -585,8 +588,8 @@ public final class RobeHouse {
 
     private int boltsThere() {
         int n = 0;
-        for (int i = 0; i < boltsMade; i++) {
-            if (bolts[i] != null) {
+        for (Cloth cloth : bolts) {
+            if (cloth != null) {
                 n++;
             }
         }
@@ -595,8 +598,8 @@ public final class RobeHouse {
 
     private int robesThere() {
         int n = 0;
-        for (int i = 0; i < robesMade; i++) {
-            if (robes[i] != null) {
+        for (Robe robe : robes) {
+            if (robe != null) {
                 n++;
             }
         }
@@ -605,8 +608,7 @@ public final class RobeHouse {
 
     private int robesLent() {
         int n = 0;
-        for (int i = 0; i < robesMade; i++) {
-            Robe robe = robes[i];
+        for (Robe robe : robes) {
             if (robe != null && robe.holder != NONE) {
                 n++;
             }
@@ -616,14 +618,12 @@ public final class RobeHouse {
 
     private int rowsThere() {
         int n = 0;
-        for (int i = 0; i < boltsMade; i++) {
-            Cloth cloth = bolts[i];
+        for (Cloth cloth : bolts) {
             if (cloth != null) {
                 n += cloth.rows.length;
             }
         }
-        for (int i = 0; i < robesMade; i++) {
-            Robe robe = robes[i];
+        for (Robe robe : robes) {
             if (robe != null) {
                 n += robe.cloth.rows.length + robe.liningRows();
             }
@@ -662,9 +662,9 @@ public final class RobeHouse {
             int n = 0;
             for (int at = 0; at < size; at++) {
                 if (isDigitAt(at) && n < MOST_ROWS) {
-                    rows[n] = bytes[at] - '0';
+                    rows[n] = byteAt(at) - '0';
                     n++;
-                } else if (bytes[at] == '!' && n > 0 && (rows[n - 1] & FLAWED) == 0) {
+                } else if (byteAt(at) == '!' && n > 0 && (rows[n - 1] & FLAWED) == 0) {
                     rows[n - 1] |= FLAWED;
                 } else {
                     return FAULT - at;
@@ -1030,6 +1030,9 @@ public final class RobeHouse {
             int code = startCodes[seam + 1];
             int sewnToCode = startCodes[SEWN_TO[seam]];
             int index = (SEAM_KIND[seam] * STARTS + code) * STARTS + sewnToCode;
+            if (index < 0 || index >= known.length) {
+                return countMisses(seam);
+            }
             if (known[index] == UNKNOWN) {
                 known[index] = countMisses(seam);
             }
@@ -1255,7 +1258,9 @@ public final class RobeHouse {
         private int tried;
 
         Clothing() {
-            Arrays.fill(given, NONE);
+            for (int i = 0; i < PEOPLE; i++) {
+                given[i] = NONE;
+            }
         }
 
         int share() {
@@ -1299,7 +1304,7 @@ public final class RobeHouse {
 
         /** Gives one a robe, if need be by moving others; no robe is tried twice, so depth stays low. */
         private boolean findRobe(int person, int depth) {
-            if (depth >= PEOPLE) {
+            if (depth >= PEOPLE || person < 0 || person >= PEOPLE) {
                 return false;
             }
             for (int robe = 0; robe < MOST_ROBES; robe++) {
